@@ -1,0 +1,105 @@
+import java.nio.charset.StandardCharsets;
+
+/** An archive whose tape is written with texts: the tests' way to it. A sign of a text is one byte. */
+final class Desk {
+    static final int REFUSED_INDEX = -101;
+    static final int REFUSED_ARGUMENT = -102;
+    static final int REFUSED_STATE = -103;
+
+    final MailArchive archive = new MailArchive();
+
+    /** Writes a text to the tape. */
+    Desk type(String text) {
+        byte[] bytes = text.getBytes(StandardCharsets.ISO_8859_1);
+        for (int from = 0; from < bytes.length; from += 20) {
+            int n = Math.min(20, bytes.length - from);
+            int[] five = new int[5];
+            for (int i = 0; i < n; i++) {
+                five[i / 4] |= (bytes[from + i] & 255) << 24 - i % 4 * 8;
+            }
+            archive.feed(five[0], five[1], five[2], five[3], five[4]);
+            if (archive.end(n) == MailArchive.NONE) {
+                throw new IllegalStateException("the tape is too short for the test");
+            }
+        }
+        return this;
+    }
+
+    int add(String mail) {
+        type(mail);
+        return add();
+    }
+
+    int add() {
+        try {
+            return archive.add();
+        } catch (IllegalStateException e) {
+            return REFUSED_STATE;
+        }
+    }
+
+    int remove(int message) {
+        try {
+            archive.remove(message);
+            return 0;
+        } catch (IndexOutOfBoundsException e) {
+            return REFUSED_INDEX;
+        }
+    }
+
+    int tag(int message, boolean on, String tag) {
+        type(tag);
+        try {
+            return archive.tag(message, on) ? 1 : 0;
+        } catch (IndexOutOfBoundsException e) {
+            return REFUSED_INDEX;
+        } catch (IllegalArgumentException e) {
+            return REFUSED_ARGUMENT;
+        } catch (IllegalStateException e) {
+            return REFUSED_STATE;
+        }
+    }
+
+    int search(String query) {
+        type(query);
+        try {
+            return archive.search();
+        } catch (IllegalArgumentException e) {
+            return REFUSED_ARGUMENT;
+        }
+    }
+
+    /** What a query finds, as "2 0 1", or where it is refused, as "fault 3". */
+    String find(String query) {
+        int n = search(query);
+        if (n == REFUSED_ARGUMENT) {
+            return "fault " + archive.fault();
+        }
+        if (archive.fault() != 0) {
+            return "found " + n + " and fault " + archive.fault();
+        }
+        StringBuilder all = new StringBuilder();
+        for (int k = 0; archive.found(k) != MailArchive.NONE; k++) {
+            all.append(k == 0 ? "" : " ").append(archive.found(k));
+        }
+        return all.toString();
+    }
+
+    /** The bytes that at() tells from k = 0 on. */
+    String text(int message, int field, int i) {
+        StringBuilder all = new StringBuilder();
+        for (int k = 0; archive.at(message, field, i, k) != MailArchive.NONE; k++) {
+            all.append((char) archive.at(message, field, i, k));
+        }
+        return all.toString();
+    }
+
+    /** All words of a field, its tags (4) or references (6), with a blank between. */
+    String texts(int message, int field) {
+        StringBuilder all = new StringBuilder();
+        for (int i = 0; archive.at(message, field, i, 0) != MailArchive.NONE; i++) {
+            all.append(i == 0 ? "" : " ").append(text(message, field, i));
+        }
+        return all.toString();
+    }
+}
