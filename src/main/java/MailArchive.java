@@ -368,7 +368,9 @@ public final class MailArchive {
         }
 
         void cutBlanksAtEnd() {
-            length = blanksBack(0, length);
+            while (length > 0 && Signs.isBlank(byteAt(length - 1))) {
+                length--;
+            }
         }
 
         /** Where [from, to) ends without the blanks at its end. */
@@ -922,7 +924,7 @@ public final class MailArchive {
             int day = stop - start <= 2 ? text.numberIn(start, stop) : NONE;
             start = wordStart(text, stop);
             stop = wordStop(text, start);
-            int month = stop - start >= 3 ? monthAt(text, start) : NONE;
+            int month = monthAt(text, start);
             start = wordStart(text, stop);
             stop = wordStop(text, start);
             int year = yearIn(text, start, stop);
@@ -1580,7 +1582,6 @@ public final class MailArchive {
             this.ids = ids;
             this.tags = tags;
             this.lexer = new Lexer(query);
-            this.refusedAt = NONE;
         }
 
         /** The messages that match; refusedAt is then NONE, or the place that can't be. */
@@ -1747,9 +1748,9 @@ public final class MailArchive {
 
         private boolean standsAt(Message message, int field, int i) {
             for (int k = 0; k < phraseCount && k < phrase.length; k++) {
-                int there = message.wordAt(field, i + k);
+                int own = message.wordAt(field, i + k);
                 boolean begins = onlyBegins && k == phraseCount - 1;
-                if (begins ? !words.begins(there, word, 0, word.size()) : there != phrase[k]) {
+                if (begins ? !words.begins(own, word, 0, word.size()) : own != phrase[k]) {
                     return false;
                 }
             }

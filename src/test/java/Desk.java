@@ -6,7 +6,17 @@ final class Desk {
     static final int REFUSED_ARGUMENT = -102;
     static final int REFUSED_STATE = -103;
 
-    final MailArchive archive = new MailArchive();
+    private final MailArchive archive = new MailArchive();
+    private int calls;
+
+    /** The archive, for one call: an object is used for 512 of them at most. */
+    MailArchive archive() {
+        calls++;
+        if (calls > 512) {
+            throw new AssertionError("the test asks too much of one object");
+        }
+        return archive;
+    }
 
     /** Writes a text to the tape. */
     Desk type(String text) {
@@ -17,9 +27,9 @@ final class Desk {
             for (int i = 0; i < n; i++) {
                 five[i / 4] |= (bytes[from + i] & 255) << 24 - i % 4 * 8;
             }
-            archive.feed(five[0], five[1], five[2], five[3], five[4]);
-            if (archive.end(n) == MailArchive.NONE) {
-                throw new IllegalStateException("the tape is too short for the test");
+            archive().feed(five[0], five[1], five[2], five[3], five[4]);
+            if (archive().end(n) == MailArchive.NONE) {
+                throw new AssertionError("the tape is too short for the test");
             }
         }
         return this;
@@ -32,7 +42,7 @@ final class Desk {
 
     int add() {
         try {
-            return archive.add();
+            return archive().add();
         } catch (IllegalStateException e) {
             return REFUSED_STATE;
         }
@@ -40,7 +50,7 @@ final class Desk {
 
     int remove(int message) {
         try {
-            archive.remove(message);
+            archive().remove(message);
             return 0;
         } catch (IndexOutOfBoundsException e) {
             return REFUSED_INDEX;
@@ -50,7 +60,7 @@ final class Desk {
     int tag(int message, boolean on, String tag) {
         type(tag);
         try {
-            return archive.tag(message, on) ? 1 : 0;
+            return archive().tag(message, on) ? 1 : 0;
         } catch (IndexOutOfBoundsException e) {
             return REFUSED_INDEX;
         } catch (IllegalArgumentException e) {
@@ -63,7 +73,7 @@ final class Desk {
     int search(String query) {
         type(query);
         try {
-            return archive.search();
+            return archive().search();
         } catch (IllegalArgumentException e) {
             return REFUSED_ARGUMENT;
         }
@@ -73,14 +83,14 @@ final class Desk {
     String find(String query) {
         int n = search(query);
         if (n == REFUSED_ARGUMENT) {
-            return "fault " + archive.fault();
+            return "fault " + archive().fault();
         }
-        if (archive.fault() != 0) {
-            return "found " + n + " and fault " + archive.fault();
+        if (archive().fault() != 0) {
+            return "found " + n + " and fault " + archive().fault();
         }
         StringBuilder all = new StringBuilder();
-        for (int k = 0; archive.found(k) != MailArchive.NONE; k++) {
-            all.append(k == 0 ? "" : " ").append(archive.found(k));
+        for (int k = 0; k < n; k++) {
+            all.append(k == 0 ? "" : " ").append(archive().found(k));
         }
         return all.toString();
     }
@@ -88,8 +98,10 @@ final class Desk {
     /** The bytes that at() tells from k = 0 on. */
     String text(int message, int field, int i) {
         StringBuilder all = new StringBuilder();
-        for (int k = 0; archive.at(message, field, i, k) != MailArchive.NONE; k++) {
-            all.append((char) archive.at(message, field, i, k));
+        int b = archive().at(message, field, i, 0);
+        for (int k = 1; b != MailArchive.NONE; k++) {
+            all.append((char) b);
+            b = archive().at(message, field, i, k);
         }
         return all.toString();
     }
@@ -97,8 +109,10 @@ final class Desk {
     /** All words of a field, its tags (4) or references (6), with a blank between. */
     String texts(int message, int field) {
         StringBuilder all = new StringBuilder();
-        for (int i = 0; archive.at(message, field, i, 0) != MailArchive.NONE; i++) {
-            all.append(i == 0 ? "" : " ").append(text(message, field, i));
+        String next = text(message, field, 0);
+        for (int i = 1; !next.isEmpty(); i++) {
+            all.append(i == 1 ? "" : " ").append(next);
+            next = text(message, field, i);
         }
         return all.toString();
     }

@@ -27,7 +27,7 @@ public final class MailTest {
         desk.add(mail);
         DUE.is("field " + field + " of <" + mail + ">", desk.texts(0, field), want);
         if (field <= BODY) {
-            DUE.is("words in " + field, desk.archive.about(0, 5 + field),
+            DUE.is("words in " + field, desk.archive().about(0, 5 + field),
                     want.isEmpty() ? 0 : want.split(" ").length);
         }
     }
@@ -60,6 +60,9 @@ public final class MailTest {
         due("Subject: one\n\rTo: x\n", BODY, "to x");
         due("Subject: a\nb: c\n\n\nd", BODY, "d");
         due("Subject: one:two\n", SUBJECT, "one two");
+        due("Subject: one\r\n two\r\n\tZOO\r\n\r\nx", SUBJECT, "one two zoo");
+        due("Content-Type:\n text/plain\r\n ;x\n\na", BODY, "a");
+        due("Content-Type:   text/plain\t\n \n\na", BODY, "a");
     }
 
     private static void encoded() {
@@ -76,6 +79,7 @@ public final class MailTest {
         // what is not so is itself
         due("Subject: =?latin1?Q?a?=", SUBJECT, "latin1 q a");
         due("Subject: =?utf-8?X?a?=", SUBJECT, "utf 8 x a");
+        due("Subject: =?utf-8?QXa?=", SUBJECT, "utf 8 qxa");
         due("Subject: =?utf-8?Q?a b?=", SUBJECT, "utf 8 q a b");
         due("Subject: =?utf-8?Q?a?b?=", SUBJECT, "utf 8 q a b");
         due("Subject: =?utf-8?Q?a", SUBJECT, "utf 8 q a");
@@ -90,6 +94,7 @@ public final class MailTest {
         due("Subject: =?utf-8?B?YWJjZ?=", SUBJECT, "abc");
         due("Subject: =?utf-8?B?Y.W=J-j?=", SUBJECT, "abc");
         due("Subject: =?utf-8?B?/+/+?=", SUBJECT, "\u00ff\u00ef\u00fe");
+        due("Subject: =?utf-8?B?WloZ?=x", SUBJECT, "zz x");
     }
 
     private static void words() {
@@ -97,14 +102,14 @@ public final class MailTest {
         due("\nabcdefghijklmnopq 1234567890123456", BODY, "abcdefghijklmnop 1234567890123456");
         Desk desk = new Desk();
         desk.add("\n" + "a ".repeat(199) + "b c");
-        DUE.is("the first 200", desk.archive.about(0, 8), 200);
+        DUE.is("the first 200", desk.archive().about(0, 8), 200);
         DUE.is("the last of them", desk.text(0, BODY, 199), "b");
         DUE.is("no more", desk.text(0, BODY, 200), "");
         DUE.is("c is not found", desk.find("c"), "");
         DUE.is("b is found", desk.find("b"), "0");
         Desk other = new Desk();
         other.add("Subject:" + "a ".repeat(300) + "c\n\nb");
-        DUE.is("a subject has all", other.archive.about(0, 7), 301);
+        DUE.is("a subject has all", other.archive().about(0, 7), 301);
         DUE.is("and the body its own", other.texts(0, BODY), "b");
     }
 
@@ -120,6 +125,9 @@ public final class MailTest {
         due(quoted + "a=zz==", BODY, "a zz");
         due(quoted + "a=", BODY, "a");
         due(quoted + "a_b", BODY, "a b");
+        due(quoted + "=39=30=c3=BF=Ff=fF=AA=Ee", BODY, "90\u00c3\u00bf\u00ff\u00ff\u00aa\u00ee");
+        due(quoted + "=3G=G3=@1=3/=:1=3`", BODY, "3g g3 1 3 1 3");
+        due("Content-Transfer-Encoding: Quoted-PRINTABLE\n\n=41=", BODY, "a");
         due("Content-Transfer-Encoding: BASE64 \n\naGVs\nbG8\r\ngd29y bGQ=", BODY, "hello world");
         due("Content-Transfer-Encoding: base64x\n\naGVs", BODY, "agvs");
         due("Content-Transfer-Encoding: 8bit\n\na=41", BODY, "a 41");
@@ -161,6 +169,12 @@ public final class MailTest {
         due("Content-Type: multipart/x;boundary=\n\n--\n\none\n----", BODY, "");
         due("Content-Type: multipart/x;boundary=\"\"\n\n--\n\none\n----", BODY, "");
         due("Content-Type: multipart/x;boundary=\"\n\n--\"\n\none\n--\"--", BODY, "one");
+        due("Content-Type: multipart/x;boundary=\"\"\n\n--\"\"\n\none", BODY, "");
+        due("Content-Type: multipart/x;boundary=;boundary=x\n\n--x\n\none", BODY, "");
+        due("Content-Type: multipart/x;xboundary=y;boundary=x\n\n--y\n\none\n--x\n\ntwo", BODY, "two");
+        due("Content-Type: multipart/;boundary=x\n\n--x\n\none", BODY, "one");
+        due("Content-Type: multipart/x;boundary=\"y\n \t z\"\n\n--y z\n\none", BODY, "one");
+        due(mixed + "--x\n\na\n--x\n\nb\n--x\n\nc\n--x\n\nd\n--x\n\ne", BODY, "a b c d e");
         due("Content-Type: multipart/x;boundary=X\n\n--x\n\none\n--X\n\ntwo", BODY, "two");
         String forty = "b".repeat(40);
         due("Content-Type: multipart/x;boundary=" + forty + "\n\n--" + forty + "\n\none", BODY, "one");
@@ -180,7 +194,7 @@ public final class MailTest {
     private static void dueDate(String date, int want) {
         Desk desk = new Desk();
         desk.add("Date: " + date);
-        DUE.is("Date: " + date, desk.archive.about(0, 3), want);
+        DUE.is("Date: " + date, desk.archive().about(0, 3), want);
     }
 
     private static void dates() {
@@ -229,7 +243,7 @@ public final class MailTest {
         dueDate("Jan", 0);
         Desk desk = new Desk();
         desk.add("Date: x\nDate: 1 Jan 1971 00:00");
-        DUE.is("the first Date counts", desk.archive.about(0, 3), 0);
+        DUE.is("the first Date counts", desk.archive().about(0, 3), 0);
     }
 
     private static void ids() {
@@ -237,6 +251,9 @@ public final class MailTest {
         due("message-id: x <a@b> <c>", ID, "a@b");
         due("Message-ID: <a b> <c>", ID, "");
         due("Message-ID: <>", ID, "");
+        due("Message-ID: < a>", ID, "");
+        due("Message-ID: <\ta>", ID, "");
+        due("Message-ID: <a\t>", ID, "");
         due("Message-ID: <a", ID, "");
         due("Message-ID: a> <b>", ID, "b");
         due("Message-ID: <a<b>", ID, "a<b");
@@ -260,7 +277,7 @@ public final class MailTest {
 
     private static void asking() {
         Desk desk = new Desk();
-        MailArchive x = desk.archive;
+        MailArchive x = desk.archive();
         desk.add("From: f\nTo: t1 t2\nSubject: s1 s2 s3\nMessage-ID: <id@x>\nReferences: <r1> <r2>\n"
                 + "Date: 1 Jan 1970 00:09\n\nb1 b2 b3 b4");
         desk.tag(0, true, "tag");

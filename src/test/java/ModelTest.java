@@ -104,12 +104,12 @@ public final class ModelTest {
             five[i] = random.nextInt();
         }
         if (random.nextBoolean()) {
-            desk.archive.feed(five[0], five[1], five[2], five[3], five[4]);
+            desk.archive().feed(five[0], five[1], five[2], five[3], five[4]);
             model.feed(five);
             left--;
         }
         int n = random.nextInt(24) - 2;
-        same("end " + n, desk.archive.end(n), model.end(n));
+        same("end " + n, desk.archive().end(n), model.end(n));
     }
 
     private void tag() {
@@ -124,19 +124,19 @@ public final class ModelTest {
         String query = query();
         type(query);
         same("search <" + query + ">", desk.search(""), model.search());
-        same("fault <" + query + ">", desk.archive.fault(), model.fault());
+        same("fault <" + query + ">", desk.archive().fault(), model.fault());
         for (int k = 0; k <= model.count(2) && k < 4 && left > 0; k++) {
-            same("found " + k + " <" + query + ">", desk.archive.found(k), model.found(k));
+            same("found " + k + " <" + query + ">", desk.archive().found(k), model.found(k));
         }
     }
 
     private void look() {
         int what = random.nextInt(8) - 1;
-        same("count " + what, desk.archive.count(what), model.count(what));
+        same("count " + what, desk.archive().count(what), model.count(what));
         if (left > 6 && random.nextInt(3) == 0) {
-            same("conversations", desk.archive.conversations(), model.conversations());
+            same("conversations", desk.archive().conversations(), model.conversations());
             for (int k = random.nextInt(3) - 1; k < 3; k++) {
-                same("thread " + k, desk.archive.thread(k), model.thread(k));
+                same("thread " + k, desk.archive().thread(k), model.thread(k));
             }
         }
         for (int n = random.nextInt(12); n > 0 && left > 0; n--) {
@@ -147,14 +147,14 @@ public final class ModelTest {
     private void lookAt(int message) {
         if (random.nextInt(3) > 0) {
             int what = random.nextInt(13) - 1;
-            same("about " + message + " " + what, desk.archive.about(message, what), model.about(message, what));
+            same("about " + message + " " + what, desk.archive().about(message, what), model.about(message, what));
             return;
         }
         int field = random.nextInt(9) - 1;
         int i = random.nextInt(4) - random.nextInt(10) / 9;
         int k = random.nextInt(5) - 1;
         same("at " + message + " " + field + " " + i + " " + k,
-                desk.archive.at(message, field, i, k), model.at(message, field, i, k));
+                desk.archive().at(message, field, i, k), model.at(message, field, i, k));
     }
 
     // ---- what is typed

@@ -8,6 +8,7 @@ public final class QueryTest {
         fields();
         threadsAndIds();
         dates();
+        wrongDates();
         faults();
         inOneAnother();
         DUE.end();
@@ -48,7 +49,9 @@ public final class QueryTest {
         due(desk, "not not not not not a", "1");
         // these are words, for or, and, not are of small letters
         due(desk, "a OR b", "");
+        due(desk, "a AND b", "");
         due(desk, "Not", "");
+        due(desk, "NOT b", "");
     }
 
     private static void phrases() {
@@ -95,6 +98,9 @@ public final class QueryTest {
         due(desk, "from:Ann-a@b", "0");
         due(desk, "to:ann", "1");
         due(desk, "to:\"ann cat\"", "1");
+        due(desk, "from:\"Ann a\"", "0");
+        due(desk, "subject:\"dog\"", "1");
+        due(desk, "body:\"dog\"", "0");
         due(desk, "to:\"ann cat\"dog", "1");
         due(desk, "subject:cat", "0");
         due(desk, "body:cat", "1");
@@ -154,12 +160,16 @@ public final class QueryTest {
         due(desk, "date:00000101..99991231", "2 1 0 4");
         due(desk, "date:00000229..", "2 1 0 4");
         due(desk, "not date:19700101..", "3 4");
+    }
+
+    private static void wrongDates() {
         String[] wrong = {"date:", "date:..", "date:20000101", "date:20000101.", "date:20000101.20000102",
             "date:2000101..", "date:20000101..2000010", "date:20000101...", "date:...20000101", "date:20000101..200001011",
             "date:19000229..", "date:20000230..", "date:20000001..", "date:20001301..", "date:20000100..", "date:20000432..",
             "date:20000101..20000431", "date:x0000101..", "date:..abcdef..", "date:..2000-1-1", "date:\"20000101..\"",
             "date:20000101 ..", "date:20000101..20000102..", "date:-0000101.."};
         for (String query : wrong) {
+            Desk desk = new Desk();
             due(desk, query, "fault 1");
             due(desk, "a  " + query, "fault 4");
         }
@@ -202,11 +212,22 @@ public final class QueryTest {
         due(desk, "thread:-1", "fault 1");
         due(desk, "thread:1a", "fault 1");
         due(desk, "thread:1234567890", "fault 1");
+        desk = new Desk();
+        desk.add("\na");
         due(desk, "or \"", "fault 1");
         due(desk, "a ) \"", "fault 3");
-        DUE.is("fault() again", desk.archive.fault(), 3);
-        due(desk, "a", "");
-        DUE.is("fault() of the latest", desk.archive.fault(), 0);
+        DUE.is("fault() again", desk.archive().fault(), 3);
+        due(desk, "a", "0");
+        DUE.is("fault() of the latest", desk.archive().fault(), 0);
+        // nothing of a query that was refused comes to the next one
+        due(desk, "not", "fault 4");
+        due(desk, "a", "0");
+        due(desk, "(not", "fault 5");
+        due(desk, "(a)", "0");
+        due(desk, "(a or", "fault 6");
+        due(desk, "b", "");
+        due(desk, "b and (", "fault 8");
+        due(desk, "(a)", "0");
     }
 
     private static void inOneAnother() {
@@ -216,10 +237,15 @@ public final class QueryTest {
         due(desk, "(".repeat(21) + "a" + ")".repeat(21), "fault 21");
         due(desk, "(a) ".repeat(30) + "(".repeat(20) + "a" + ")".repeat(20), "0");
         due(desk, "(".repeat(20) + "a" + ")".repeat(21), "fault 42");
+        due(desk, "((((a))))", "0");
+        desk = new Desk();
+        desk.add("\na");
         due(desk, "not ".repeat(299) + "a", "");
         due(desk, "not ".repeat(298) + "a", "0");
         due(desk, "not(".repeat(20) + "a" + ")".repeat(20), "0");
         due(desk, "not(".repeat(19) + "a" + ")".repeat(19), "");
+        desk = new Desk();
+        desk.add("\na");
         due(desk, "a ".repeat(600), "0");
         due(desk, "(".repeat(1200), "fault 21");
     }

@@ -9,6 +9,7 @@ public final class ThreadsTest {
         rings();
         moving();
         replies();
+        eachOnce();
         DUE.end();
     }
 
@@ -22,9 +23,9 @@ public final class ThreadsTest {
     /** Of each message its thread, its parent and how many are above. */
     private static void due(Desk desk, String call, String want) {
         StringBuilder all = new StringBuilder();
-        for (int message = 0; message < desk.archive.count(1); message++) {
-            all.append(message == 0 ? "" : " ").append(desk.archive.about(message, 0)).append(',')
-                    .append(desk.archive.about(message, 1)).append(',').append(desk.archive.about(message, 2));
+        for (int message = 0; message < desk.archive().count(1); message++) {
+            all.append(message == 0 ? "" : " ").append(desk.archive().about(message, 0)).append(',')
+                    .append(desk.archive().about(message, 1)).append(',').append(desk.archive().about(message, 2));
         }
         DUE.is(call, all.toString(), want);
     }
@@ -35,27 +36,32 @@ public final class ThreadsTest {
         desk.add("Message-ID: <b>\nDate: 3 Jan 2000 00:00\n\nx");
         desk.add("References: <a>\nDate: 2 Jan 2000 00:00\n\nx");
         desk.add("References: <a>\nDate: 4 Jan 2000 00:00\n\ny");
-        DUE.is("nothing is found yet", desk.archive.conversations(), 0);
+        DUE.is("nothing is found yet", desk.archive().conversations(), 0);
         DUE.is("find", desk.find("x"), "1 2 0");
-        DUE.is("thread(0) before", desk.archive.thread(0), MailArchive.NONE);
-        DUE.is("conversations()", desk.archive.conversations(), 2);
-        DUE.is("thread(0)", desk.archive.thread(0), 1);
-        DUE.is("thread(1)", desk.archive.thread(1), 0);
-        DUE.is("thread(2)", desk.archive.thread(2), MailArchive.NONE);
-        DUE.is("thread(-1)", desk.archive.thread(-1), MailArchive.NONE);
-        DUE.is("thread(max)", desk.archive.thread(Integer.MAX_VALUE), MailArchive.NONE);
+        DUE.is("thread(0) before", desk.archive().thread(0), MailArchive.NONE);
+        DUE.is("conversations()", desk.archive().conversations(), 2);
+        DUE.is("thread(0)", desk.archive().thread(0), 1);
+        DUE.is("thread(1)", desk.archive().thread(1), 0);
+        DUE.is("thread(2)", desk.archive().thread(2), MailArchive.NONE);
+        DUE.is("thread(-1)", desk.archive().thread(-1), MailArchive.NONE);
+        DUE.is("thread(max)", desk.archive().thread(Integer.MAX_VALUE), MailArchive.NONE);
         desk.remove(0);
-        DUE.is("thread(1) is of the latest conversations()", desk.archive.thread(1), 0);
+        DUE.is("thread(1) is of the latest conversations()", desk.archive().thread(1), 0);
         DUE.is("find", desk.find("y"), "3");
-        DUE.is("thread(0) is so too", desk.archive.thread(0), 1);
-        DUE.is("conversations()", desk.archive.conversations(), 1);
-        DUE.is("thread(0)", desk.archive.thread(0), 2);
-        DUE.is("thread(1)", desk.archive.thread(1), MailArchive.NONE);
+        DUE.is("thread(0) is so too", desk.archive().thread(0), 1);
+        DUE.is("conversations()", desk.archive().conversations(), 1);
+        DUE.is("thread(0)", desk.archive().thread(0), 2);
+        DUE.is("thread(1)", desk.archive().thread(1), MailArchive.NONE);
         desk.search("(");
-        DUE.is("conversations() behind a refusal", desk.archive.conversations(), 1);
+        DUE.is("conversations() behind a refusal", desk.archive().conversations(), 1);
+        DUE.is("find", desk.find("x or y"), "3 1 2");
+        DUE.is("conversations()", desk.archive().conversations(), 2);
+        DUE.is("thread(0), each once", desk.archive().thread(0), 2);
+        DUE.is("thread(1)", desk.archive().thread(1), 1);
+        desk.search("y");
         desk.remove(3);
-        DUE.is("conversations() of what has gone", desk.archive.conversations(), 0);
-        DUE.is("thread(0)", desk.archive.thread(0), MailArchive.NONE);
+        DUE.is("conversations() of what has gone", desk.archive().conversations(), 0);
+        DUE.is("thread(0)", desk.archive().thread(0), MailArchive.NONE);
     }
 
     private static void chains() {
@@ -64,12 +70,15 @@ public final class ThreadsTest {
         add(desk, "d", "a b c");
         due(desk, "b and c have no message", "0,-1,0 0,0,1");
         add(desk, "c", "");
+        DUE.is("above d at once", desk.archive().about(1, 2), 2);
         due(desk, "c comes", "0,-1,0 0,2,2 0,0,1");
         add(desk, "", "x");
         add(desk, "", "x");
+        DUE.is("thread of 4 at once", desk.archive().about(4, 0), 3);
         due(desk, "together under a node without a message", "0,-1,0 0,2,2 0,0,1 3,-1,0 3,-1,0");
         add(desk, "", "");
         desk.remove(0);
+        DUE.is("parent of c at once", desk.archive().about(2, 1), MailArchive.NONE);
         due(desk, "a goes", "-1,-1,-1 1,2,1 1,-1,0 3,-1,0 3,-1,0 5,-1,0");
         desk.remove(1);
         due(desk, "d goes, and what it told of c", "-1,-1,-1 -1,-1,-1 2,-1,0 3,-1,0 3,-1,0 5,-1,0");
@@ -137,6 +146,20 @@ public final class ThreadsTest {
         add(same, "c", "p");
         add(same, "p", "");
         due(same, "c is under p already", "0,1,2 0,2,1 0,-1,0");
+    }
+
+    /** The first thread of a conversation stands at more places than its first one. */
+    private static void eachOnce() {
+        Desk desk = new Desk();
+        add(desk, "", "q");
+        add(desk, "", "");
+        add(desk, "", "q");
+        add(desk, "", "q");
+        DUE.is("find", desk.find("a"), "3 2 1 0");
+        DUE.is("conversations()", desk.archive().conversations(), 2);
+        DUE.is("thread(0)", desk.archive().thread(0), 0);
+        DUE.is("thread(1)", desk.archive().thread(1), 1);
+        DUE.is("conversations() again", desk.archive().conversations(), 2);
     }
 
     private static void replies() {
