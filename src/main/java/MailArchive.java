@@ -1121,8 +1121,9 @@ public final class MailArchive {
             }
         }
 
+        /** Lets a part wait, if there is one: ahead of the first boundary there is none. */
         private void putPart(int start, int stop, int level) {
-            if (partCount >= 0 && partCount < MOST_PARTS && level <= MOST_MESSAGES_IN_ONE_ANOTHER) {
+            if (start != NONE && partCount >= 0 && partCount < MOST_PARTS && level <= MOST_MESSAGES_IN_ONE_ANOTHER) {
                 partStarts[partCount] = Math.min(start, stop);
                 partStops[partCount] = stop;
                 partLevels[partCount] = level;
@@ -1163,20 +1164,20 @@ public final class MailArchive {
             for (int turn = start; turn < header.to && start < header.to; turn++) {
                 int stop = mail.lineStop(start, header.to);
                 int behind = behindBoundary(start);
-                int end = mail.blanksBack(behind, mail.lineEnd(start, stop, header.to));
-                boolean ends = behind != NONE && mail.is(behind, end, "--", false);
-                if (partStart != NONE && (ends || behind == end)) {
-                    putPart(partStart, start, level);
+                if (behind != NONE) {
+                    int end = mail.blanksBack(behind, mail.lineEnd(start, stop, header.to));
+                    boolean ends = mail.is(behind, end, "--", false);
+                    if (ends || behind == end) {
+                        putPart(partStart, start, level);
+                        partStart = stop + 1;
+                    }
+                    if (ends) {
+                        return;
+                    }
                 }
-                if (ends) {
-                    return;
-                }
-                partStart = behind == end ? stop + 1 : partStart;
                 start = stop + 1;
             }
-            if (partStart != NONE) {
-                putPart(partStart, header.to, level);
-            }
+            putPart(partStart, header.to, level);
         }
 
         private void turnParts(int first) {
