@@ -5,6 +5,8 @@ final class Desk {
     static final int REFUSED_INDEX = -101;
     static final int REFUSED_ARGUMENT = -102;
     static final int REFUSED_STATE = -103;
+    /** What is due nowhere: an exception that the machine or the library threw, and not the class itself. */
+    static final int THREW_BY_ITSELF = -104;
 
     private final MailArchive archive = new MailArchive();
     private int calls;
@@ -44,7 +46,7 @@ final class Desk {
         try {
             return archive().add();
         } catch (IllegalStateException e) {
-            return REFUSED_STATE;
+            return refusal(e, "IllegalStateException", REFUSED_STATE);
         }
     }
 
@@ -53,7 +55,7 @@ final class Desk {
             archive().remove(message);
             return 0;
         } catch (IndexOutOfBoundsException e) {
-            return REFUSED_INDEX;
+            return refusal(e, "IndexOutOfBoundsException", REFUSED_INDEX);
         }
     }
 
@@ -62,11 +64,11 @@ final class Desk {
         try {
             return archive().tag(message, on) ? 1 : 0;
         } catch (IndexOutOfBoundsException e) {
-            return REFUSED_INDEX;
+            return refusal(e, "IndexOutOfBoundsException", REFUSED_INDEX);
         } catch (IllegalArgumentException e) {
-            return REFUSED_ARGUMENT;
+            return refusal(e, "IllegalArgumentException", REFUSED_ARGUMENT);
         } catch (IllegalStateException e) {
-            return REFUSED_STATE;
+            return refusal(e, "IllegalStateException", REFUSED_STATE);
         }
     }
 
@@ -75,8 +77,14 @@ final class Desk {
         try {
             return archive().search();
         } catch (IllegalArgumentException e) {
-            return REFUSED_ARGUMENT;
+            return refusal(e, "IllegalArgumentException", REFUSED_ARGUMENT);
         }
+    }
+
+    private static int refusal(RuntimeException e, String name, int refused) {
+        StackTraceElement[] calls = e.getStackTrace();
+        boolean thrownByTheClass = calls.length > 0 && calls[0].getClassName().equals("MailArchive");
+        return thrownByTheClass && e.getClass().getSimpleName().equals(name) ? refused : THREW_BY_ITSELF;
     }
 
     /** What a query finds, as "2 0 1", or where it is refused, as "fault 3". */
@@ -115,5 +123,19 @@ final class Desk {
             next = text(message, field, i);
         }
         return all.toString();
+    }
+
+    /** What texts() tells of a mail that comes alone. */
+    static String textsOf(String mail, int field) {
+        Desk desk = new Desk();
+        desk.add(mail);
+        return desk.texts(0, field);
+    }
+
+    /** What about() tells of a mail that comes alone. */
+    static int aboutOf(String mail, int what) {
+        Desk desk = new Desk();
+        desk.add(mail);
+        return desk.archive().about(0, what);
     }
 }

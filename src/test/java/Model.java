@@ -351,7 +351,7 @@ final class Model {
             String piece = trim(pieces[i]);
             int sign = piece.indexOf('=');
             if (sign >= 0 && small(piece.substring(0, sign)).equals("boundary")) {
-                String value = trim(piece.substring(sign + 1));
+                String value = piece.substring(sign + 1);
                 boolean inSigns = value.length() >= 2 && value.startsWith("\"") && value.endsWith("\"");
                 return inSigns ? value.substring(1, value.length() - 1) : value;
             }

@@ -13,10 +13,11 @@ public final class ModelTest {
     private static final String[] TYPES = {"text/plain", "TEXT/Plain ; charset=utf-8", "text/html", "", ";boundary=x",
         "multipart/mixed; boundary=x", "Multipart/Alternative;charset=\"u\"; BOUNDARY=\"y z\" ", "multipart/;boundary=\"\"",
         "multipart/mixed; boundary=x; boundary=y", "multipart/mixed;boundary=\"x\";", "multipart/x; boundary = x",
+        "multipart/x;boundary= x", "multipart/x;boundary=\"x \"", "multipart/x;boundary;boundary=x",
         "multipart/mixed", "multipart/mixed;\n boundary=--", "multipart/mixed; a;boundary=\"b", "text/plain x"};
     private static final String[] CODINGS = {"base64", "Base64 ", "quoted-printable", "QUOTED-Printable", "7bit", ""};
     private static final String[] MARKS = {"--x", "--x--", "--y z", "--y z--", "--x ", "--x-- ", "--x \t", "----", "------",
-        "--\"b", "--xx", "-x", "--x-", "--"};
+        "--\"b", "-- x", "-- x--", "--x --", "--xx", "-x", "--x-", "--"};
     private static final String[] MONTHS = {"jan", "Feb", "MARCH", "apr.", "May1", "June", "jul", "aug", "Sept", "oct",
         "nov", "december", "foo", "fe"};
     private static final String[] ZONES = {"", " +0100", " -0230", " GMT", " +2400", " +2359", " -2359", " +0160", ",-0001 x"};
