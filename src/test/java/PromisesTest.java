@@ -1074,15 +1074,17 @@ public final class PromisesTest {
         int calls = 0;
         int came = 0;
         for (int i = 0; calls < 508; i++) {
-            full.feed(0x2041410a + (i << 8), 0x20424200 + i, 0x20434300 + i, 0x20444400 + i, 0x20454500 + i);
+            int digits = '0' + i % 10 | '0' + i / 10 % 10 << 8;
+            full.feed(0x20610000 | digits, 0x20620000 | digits, 0x20630000 | digits, 0x20640000 | digits, 0x20650000 | digits);
             full.end(20);
             calls += 2;
             if (i % 60 == 59) {
                 DUE.is("add()", full.add(), came);
+                DUE.is("its words", full.about(came, 8), 200);
                 came++;
-                calls++;
+                calls += 2;
             }
         }
-        DUE.is("came", full.count(1), came);
+        DUE.is("different words of the first 200 of each", full.count(3), 5 * 100);
     }
 }
