@@ -492,7 +492,8 @@ public final class MailArchive {
         }
 
         int find(Bytes text, int from, int to) {
-            int number = heads[slotOf(text, from, to)] - 1;
+            int slot = slotOf(text, from, to);
+            int number = slot >= 0 && slot < heads.length ? heads[slot] - 1 : NONE;
             for (int turn = 0; turn < entries && number >= 0 && number < nexts.length; turn++) {
                 if (sizeOf(number) == to - from && begins(number, text, from, to)) {
                     return number;
@@ -508,7 +509,8 @@ public final class MailArchive {
                 return number;
             }
             makeRoom(from, to);
-            if (entries + 1 >= starts.length || entries >= nexts.length) {
+            int slot = slotOf(text, from, to);
+            if (slot < 0 || slot >= heads.length || entries + 1 >= starts.length || entries >= nexts.length) {
                 return NONE;
             }
             int stop = starts[entries];
@@ -516,7 +518,6 @@ public final class MailArchive {
                 row[stop] = (byte) text.byteAt(i);
                 stop++;
             }
-            int slot = slotOf(text, from, to);
             nexts[entries] = heads[slot] - 1;
             heads[slot] = entries + 1;
             entries++;
@@ -1092,8 +1093,7 @@ public final class MailArchive {
             writeText();
             takeWords(MOST_BODY_WORDS);
             fieldStarts[FIELDS] = wordCount;
-            int[] row = Arrays.copyOf(wordRow, wordCount);
-            return new Message(number, row, fieldStarts, date, id, references);
+            return new Message(number, firstOf(wordRow, wordCount), fieldStarts, date, id, references);
         }
 
         private void takeWords(int most) {
@@ -1251,7 +1251,7 @@ public final class MailArchive {
                 header.writeValue(Header.IN_REPLY_TO, value);
                 n = takeReferences(1);
             }
-            return Arrays.copyOf(referenceRow, n);
+            return firstOf(referenceRow, n);
         }
 
         private int takeReferences(int most) {
@@ -1270,6 +1270,10 @@ public final class MailArchive {
                 i = close + 1;
             }
             return n;
+        }
+
+        private static int[] firstOf(int[] row, int n) {
+            return Arrays.copyOf(row, n >= 0 && n <= row.length ? n : 0);
         }
 
         private boolean isId(int open, int close) {

@@ -1,6 +1,8 @@
+import java.io.DataInputStream;
 import java.io.IOException;
 import java.lang.reflect.Executable;
 import java.lang.reflect.Field;
+import java.lang.reflect.Method;
 import java.lang.reflect.Modifier;
 import java.nio.charset.StandardCharsets;
 import java.nio.file.Files;
@@ -18,6 +20,13 @@ import java.util.regex.Pattern;
 public final class RulesTest {
     private static final Due DUE = new Due();
     private static final int MOST_LINES = 60;
+    private static final Set<String> PUBLIC_NAMES = Set.of("feed", "end", "add", "remove", "tag", "search", "fault", "found",
+        "conversations", "thread", "about", "at", "count");
+    private static final Set<String> LIBRARY = Set.of("java/lang/Object.<init>", "java/lang/String.length",
+        "java/lang/String.charAt", "java/util/ArrayList.<init>", "java/util/ArrayList.add", "java/util/ArrayList.get",
+        "java/util/ArrayList.remove", "java/util/ArrayList.size", "java/lang/Math.min", "java/lang/Math.floorDiv",
+        "java/util/Arrays.copyOf", "java/util/Arrays.fill", "java/lang/IllegalStateException.<init>",
+        "java/lang/IllegalArgumentException.<init>", "java/lang/IndexOutOfBoundsException.<init>");
 
     public static void main(String[] args) throws IOException {
         String source = Files.readString(Path.of("src/main/java/MailArchive.java"), StandardCharsets.ISO_8859_1);
@@ -30,6 +39,10 @@ public final class RulesTest {
         thrown(code);
         lengths(source);
         members();
+        used(MailArchive.class);
+        for (Class<?> each : MailArchive.class.getDeclaredClasses()) {
+            used(each);
+        }
         DUE.end();
     }
 
@@ -114,10 +127,52 @@ public final class RulesTest {
             }
             DUE.is(fields + " fields of " + each.getName() + " are too many", fields > 20, false);
             DUE.is(each.getName() + " has classes inside", each != MailArchive.class && each.getDeclaredClasses().length > 0, false);
+            for (Method method : each.getDeclaredMethods()) {
+                boolean bearsPublicName = !Modifier.isPublic(method.getModifiers()) && PUBLIC_NAMES.contains(method.getName());
+                DUE.is(method + " bears the name of a public one", bearsPublicName, false);
+            }
             List<Executable> calls = new ArrayList<>(List.of(each.getDeclaredMethods()));
             calls.addAll(List.of(each.getDeclaredConstructors()));
             for (Executable call : calls) {
                 DUE.is(call + " takes too many", call.getParameterCount() > 7, false);
+            }
+        }
+    }
+
+    /** Rules 2, 4 and 10: what the compiled class calls; a lambda or a text joined by + would be a call made at run time. */
+    private static void used(Class<?> each) throws IOException {
+        String file = each.getName() + ".class";
+        try (DataInputStream in = new DataInputStream(MailArchive.class.getResourceAsStream(file))) {
+            in.skipBytes(8);
+            int[][] pairs = new int[in.readUnsignedShort()][];
+            String[] texts = new String[pairs.length];
+            List<Integer> calls = new ArrayList<>();
+            for (int i = 1; i < pairs.length; i++) {
+                int kind = in.readUnsignedByte();
+                boolean madeAtRunTime = kind >= 15 && kind <= 18;
+                DUE.is(file + " has a call that is made at run time", madeAtRunTime, false);
+                if (madeAtRunTime) {
+                    return;
+                }
+                if (kind == 1) {
+                    texts[i] = in.readUTF();
+                } else if (kind == 7 || kind == 8) {
+                    pairs[i] = new int[] {in.readUnsignedShort(), 0};
+                } else {
+                    pairs[i] = new int[] {in.readUnsignedShort(), in.readUnsignedShort()};
+                }
+                if (kind == 10 || kind == 11) {
+                    calls.add(i);
+                }
+                if (kind == 5 || kind == 6) {
+                    in.skipBytes(4);
+                    i++;
+                }
+            }
+            for (int call : calls) {
+                String owner = texts[pairs[pairs[call][0]][0]];
+                String name = owner + "." + texts[pairs[pairs[call][1]][0]];
+                DUE.is(file + " calls " + name, owner.startsWith("MailArchive") || LIBRARY.contains(name), true);
             }
         }
     }
